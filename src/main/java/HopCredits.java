@@ -1300,7 +1300,8 @@ public final class HopCredits {
             Link link = links[h];
             for (int turn = 1; turn <= circuits; turn++) {
                 int c = (link.latest + turn) % circuits;
-                if (buffers[h * MOST_CIRCUITS + c] > 0 && link.lanes[c].credit() > 0) {
+                Lane lane = link.lanes[c];
+                if (buffers[h * MOST_CIRCUITS + c] > 0 && lane.out() < lane.zone) {
                     return c;
                 }
             }
