@@ -1,89 +1,9 @@
-import java.util.NoSuchElementException;
-
 /** For each promise of the document: ordinary inputs, the edges it names, wrong inputs; answers worked out by hand. */
-public final class PromiseTest {
-    private static final int NONE = -1;
-    private static final int HIDDEN = -1000000;
-    private static int wrong = 0;
-    private static String promise = "";
-
-    private static void due(String call, long got, long want) {
-        if (got != want) {
-            wrong++;
-            System.out.println("promise " + promise + ": " + call + " answered " + got + ", due is " + want);
-        }
-    }
-
-    private static void due(String call, boolean got, boolean want) {
-        due(call, got ? 1 : 0, want ? 1 : 0);
-    }
-
-    private static HopCredits tape(String text) {
-        HopCredits x = new HopCredits();
-        feed(x, text);
-        return x;
-    }
-
-    private static int feed(HopCredits x, String text) {
-        int answer = x.count(0);
-        for (int from = 0; from < text.length(); from += 20) {
-            int[] words = new int[5];
-            for (int i = from; i < Math.min(from + 20, text.length()); i++) {
-                words[(i - from) / 4] |= text.charAt(i) << (24 - 8 * ((i - from) % 4));
-            }
-            answer = x.feed(words[0], words[1], words[2], words[3], words[4]);
-        }
-        return answer;
-    }
-
-    private static HopCredits net(String text) {
-        HopCredits x = tape(text);
-        if (x.net() < 1) {
-            wrong++;
-            System.out.println("promise " + promise + ": no NET of " + text);
-        }
-        return x;
-    }
-
-    private static HopCredits net(String text, int ticks) {
-        HopCredits x = net(text);
-        x.go(ticks);
-        return x;
-    }
-
-    private static boolean hopThrows(HopCredits x, int hop, int what) {
-        try {
-            x.hop(hop, what);
-            return false;
-        } catch (NoSuchElementException e) {
-            return true;
-        }
-    }
-
-    private static boolean circuitThrows(HopCredits x, int circuit, int what) {
-        try {
-            x.circuit(circuit, what);
-            return false;
-        } catch (NoSuchElementException e) {
-            return true;
-        }
-    }
-
-    private static void faultOf(String text, int want) {
-        due("fault() of \"" + text + "\"", tape(text).fault(), want);
-    }
-
-    private static void statusOf(HopCredits x, int a, int b, int c, int d) {
-        due("status(0)", x.status(0), a);
-        due("status(1)", x.status(1), b);
-        due("status(2)", x.status(2), c);
-        due("status(3)", x.status(3), d);
-    }
-
+public final class PromiseTest extends Due {
     // ---- 1 to 5: the TAPE and the NET
 
     private static void newObject() {
-        promise = "1";
+        about("promise 1");
         HopCredits x = new HopCredits();
         due("NONE", HopCredits.NONE, NONE);
         due("HIDDEN", HopCredits.HIDDEN, HIDDEN);
@@ -108,7 +28,7 @@ public final class PromiseTest {
     }
 
     private static void feeds() {
-        promise = "2";
+        about("promise 2");
         HopCredits x = new HopCredits();
         due("feed of zeros", x.feed(0, 0, 0, 0, 0), 0);
         due("feed with zeros between", x.feed(0x68000064, 0, 0x00310000, 0, 0), 3);
@@ -133,7 +53,7 @@ public final class PromiseTest {
     }
 
     private static void ends() {
-        promise = "3";
+        about("promise 3");
         HopCredits x = tape("hd1x");
         due("end(-1)", x.end(-1), false);
         due("end(5)", x.end(5), false);
@@ -149,7 +69,7 @@ public final class PromiseTest {
     }
 
     private static void faults() {
-        promise = "4";
+        about("promise 4");
         for (String good : new String[] {"n", "h", "c", "n;h;c", "c;h;c;h;c;h", "nr4a20p9;hd4b30e4;cg9s20t9",
             "n r1 a0 p0 ; h d1 b1 e1 ; c g0 s0 t0", "hd01", "hb 05", "  c  ", "np0r1", "nr4;hb1;c;c;c", "hb01d04"}) {
             faultOf(good, NONE);
@@ -203,7 +123,7 @@ public final class PromiseTest {
     }
 
     private static void nets() {
-        promise = "5";
+        about("promise 5");
         HopCredits x = tape("h;c;c;c;c");
         due("net at fault", x.net(), NONE);
         due("the TAPE stays", x.count(0), 9);
@@ -244,7 +164,7 @@ public final class PromiseTest {
     // ---- 6 to 11: what is told
 
     private static void rules() {
-        promise = "6";
+        about("promise 6");
         HopCredits x = net("nr2a7p5;h;h;c;c;c", 9);
         int[] want = {2, 3, 2, 7, 5, 9};
         for (int what = 0; what < want.length; what++) {
@@ -259,7 +179,7 @@ public final class PromiseTest {
     }
 
     private static void hops() {
-        promise = "7";
+        about("promise 7");
         HopCredits x = net("hd4b9e2;hd1;c;ct0", 5);
         // hop 0 sends in ticks 0 to 4 in turns; the first cell comes in tick 4 and goes on over hop 1
         int[] first = {4, 9, 2, 0, 4, 0, 0, 0};
@@ -287,7 +207,7 @@ public final class PromiseTest {
     }
 
     private static void circuits() {
-        promise = "8";
+        about("promise 8");
         HopCredits x = net("cg3s4t2;ct0;c", 60);
         x.go(60);
         // circuit 0 comes in ticks 4, 7 .. 118: the cell of 118 is on the hop; circuit 1 sends its ZONE of 4 and no more
@@ -319,7 +239,7 @@ public final class PromiseTest {
     }
 
     private static void lanes() {
-        promise = "9";
+        about("promise 9");
         // sends in ticks 0, 1, 2; takes in 2, 3, 4; the update behind the second taken comes in tick 5
         HopCredits x = net("hd2b3e2", 5);
         int[] want = {3, 3, 0, 3, 3, 0, 2, 1, 3, 0};
@@ -353,7 +273,7 @@ public final class PromiseTest {
     }
 
     private static void buffers() {
-        promise = "10";
+        about("promise 10");
         HopCredits x = net("hb2;h;ct0", 20);
         // hop 1 brings its 12 to the end; hop 0 goes at full rate until then
         due("buffer(2, 0)", x.buffer(2, 0), 12);
@@ -366,7 +286,7 @@ public final class PromiseTest {
     }
 
     private static void ways() {
-        promise = "11";
+        about("promise 11");
         HopCredits x = net("hd4;c;cg2s1", 1);
         due("cell", x.way(0, 4, 0), 0);
         due("cell", x.way(0, 3, 0), NONE);
@@ -397,7 +317,7 @@ public final class PromiseTest {
     // ---- 12 to 18: by hand
 
     private static void goes() {
-        promise = "12";
+        about("promise 12");
         HopCredits x = new HopCredits();
         due("no NET", x.go(100), NONE);
         statusOf(x, 1, 0, 0, 0);
@@ -456,7 +376,7 @@ public final class PromiseTest {
     }
 
     private static void jams() {
-        promise = "13";
+        about("promise 13");
         HopCredits x = net("h;h");
         due("jam", x.jam(1, 9), 0);
         due("jam", x.jam(1, 2), 9);
@@ -485,7 +405,7 @@ public final class PromiseTest {
     }
 
     private static void sources() {
-        promise = "14";
+        about("promise 14");
         HopCredits x = net("cg2s3;c");
         due("source", x.source(0, 9, 999), 2);
         due("source", x.source(0, 0, 0), 9);
@@ -506,7 +426,7 @@ public final class PromiseTest {
     }
 
     private static void takesTold() {
-        promise = "15";
+        about("promise 15");
         HopCredits x = net("c;ct0");
         due("takes", x.takes(0, 9), 1);
         due("takes", x.takes(0, 0), 9);
@@ -525,7 +445,7 @@ public final class PromiseTest {
     }
 
     private static void zones() {
-        promise = "16";
+        about("promise 16");
         HopCredits x = net("nr2;hb12;ct0;c", 20);
         due("below RESERVE", x.zone(0, 0, 1), NONE);
         due("above POOL", x.zone(0, 0, 13), NONE);
@@ -547,7 +467,7 @@ public final class PromiseTest {
     }
 
     private static void probes() {
-        promise = "17";
+        about("promise 17");
         HopCredits x = net("np9;hb3;ct0", 6);
         due("WAITED", x.lane(0, 0, 6), 3);
         due("OUT", x.probe(0, 0), 3);
@@ -573,7 +493,7 @@ public final class PromiseTest {
     }
 
     private static void statuses() {
-        promise = "18";
+        about("promise 18");
         HopCredits x = net("h");
         statusOf(x, 0, 0, 0, 0);
         due("status(-1)", x.status(-1), NONE);
@@ -589,7 +509,7 @@ public final class PromiseTest {
     // ---- 19 to 27: ahead
 
     private static void aheads() {
-        promise = "19";
+        about("promise 19");
         HopCredits x = net("na5p2;hd2b5e2;hd3;c;cg2t3", 7);
         x.jam(0, 2);
         HopCredits y = net("na5p2;hd2b5e2;hd3;c;cg2t3", 7);
@@ -601,13 +521,13 @@ public final class PromiseTest {
                 due("laneAhead", x.laneAhead(1, 1, what, n), y.lane(1, 1, what));
                 due("laneAhead", x.laneAhead(0, 0, what, n), y.lane(0, 0, what));
             }
-            promise = "20";
+            about("promise 20");
             due("bufferAhead", x.bufferAhead(1, 0, n), y.buffer(1, 0));
-            promise = "21";
+            about("promise 21");
             due("delivered", x.delivered(0, n), y.circuit(0, 5) - x.circuit(0, 5));
             due("delivered", x.delivered(1, n), y.circuit(1, 5) - x.circuit(1, 5));
             due("delivered", x.delivered(-1, n), y.count(2) - x.count(2));
-            promise = "19";
+            about("promise 19");
         }
         due("the TICK is as it was", x.rule(5), 7);
         due("n 0", x.laneAhead(0, 0, 0, 0), x.lane(0, 0, 0));
@@ -617,13 +537,13 @@ public final class PromiseTest {
         due("hop", x.laneAhead(2, 0, 0, 1), NONE);
         due("circuit", x.laneAhead(0, 2, 0, 1), NONE);
         due("n 200", net("h").laneAhead(0, 0, 0, 200), 200 % 64);
-        promise = "20";
+        about("promise 20");
         due("node", x.bufferAhead(3, 0, 1), NONE);
         due("circuit", x.bufferAhead(0, 2, 1), NONE);
         due("n", x.bufferAhead(0, 0, 201), NONE);
         due("n", x.bufferAhead(0, 0, -1), NONE);
         due("n 200", net("ct0").bufferAhead(0, 0, 200), 99);
-        promise = "21";
+        about("promise 21");
         due("n 0", x.delivered(-1, 0), 0);
         due("circuit", x.delivered(2, 1), NONE);
         due("circuit", x.delivered(-2, 1), NONE);
@@ -633,7 +553,7 @@ public final class PromiseTest {
     }
 
     private static void heldUps() {
-        promise = "22";
+        about("promise 22");
         due("the one to come", net("h").heldUp(0, 0), 1);
         due("START", net("cs5").heldUp(0, 0), 6);
         due("its turn", net("c;c").heldUp(0, 1), 2);
@@ -650,7 +570,7 @@ public final class PromiseTest {
     }
 
     private static void idles() {
-        promise = "23";
+        about("promise 23");
         due("zone 1", net("hb1").idle(0, 10), 5);
         due("always busy", net("hb2").idle(0, 200), 0);
         due("GAP 3", net("cg3").idle(0, 10), 6);
@@ -665,7 +585,7 @@ public final class PromiseTest {
     }
 
     private static void mosts() {
-        promise = "24";
+        about("promise 24");
         // two CIRCUITS of a ZONE of 3; that of circuit 0 fills, as its cells are taken each third TICK alone
         HopCredits x = net("hb6;ct3;cg0");
         due("BUFFER", x.most(1, 0, 0, 20), 3);
@@ -694,7 +614,7 @@ public final class PromiseTest {
     }
 
     private static void healings() {
-        promise = "25";
+        about("promise 25");
         due("at first", net("h").healed(), 0);
         due("an update on its way", net("hd3", 4).healed(), 3);
         HopCredits x = net("hb1");
@@ -715,7 +635,7 @@ public final class PromiseTest {
     }
 
     private static void losses() {
-        promise = "26";
+        about("promise 26");
         due("zone 1 is stuck by one", net("hb1").loss(1, 20), 9);
         due("zone 2 loses a TICK", net("hb2").loss(1, 20), 1);
         due("zone 2 is stuck by two", net("hb2").loss(2, 20), 17);
@@ -732,7 +652,7 @@ public final class PromiseTest {
     }
 
     private static void fairs() {
-        promise = "27";
+        about("promise 27");
         due("one alone", net("h").fair(50), 0);
         due("two in turns", net("c;c").fair(11), 0);
         due("two in turns", net("c;c").fair(10), 1);
@@ -747,7 +667,7 @@ public final class PromiseTest {
     // ---- 28 to 35
 
     private static void aloneLinks() {
-        promise = "28";
+        about("promise 28");
         HopCredits x = net("h", 5);
         due("zone 1", x.alone(1, 1, 1, 1, 10), 5);
         due("zone 2", x.alone(1, 1, 2, 1, 10), 10);
@@ -760,7 +680,7 @@ public final class PromiseTest {
             due("out of bounds", x.alone(bad[0], bad[1], bad[2], bad[3], bad[4]), NONE);
         }
         due("the NET is as it was", x.rule(5), 5);
-        promise = "29";
+        about("promise 29");
         due("full", x.full(4, 1, 1, 200), 8);
         due("EVERY", x.full(1, 4, 1, 200), 5);
         due("one TICK", x.full(4, 4, 9, 1), 1);
@@ -769,7 +689,7 @@ public final class PromiseTest {
             {1, 1, 10, 1}, {1, 1, 1, 0}, {1, 1, 1, 201}}) {
             due("out of bounds", x.full(bad[0], bad[1], bad[2], bad[3]), NONE);
         }
-        promise = "30";
+        about("promise 30");
         due("law", x.law(4, 4, 1), 11);
         due("cut upwards", x.law(4, 1, 3), 3);
         due("cut upwards", x.law(1, 1, 9), 1);
@@ -779,7 +699,7 @@ public final class PromiseTest {
     }
 
     private static void aims() {
-        promise = "31";
+        about("promise 31");
         HopCredits x = net("nr2;hb13;c;cg2s1;cg0");
         due("without any", x.aim(0, 0), 4);
         x.go(3);
@@ -790,7 +710,7 @@ public final class PromiseTest {
         due("ZONE as it was", x.lane(0, 2, 3), 4);
         due("hop", x.aim(1, 0), NONE);
         due("circuit", x.aim(0, 3), NONE);
-        promise = "32";
+        about("promise 32");
         due("room", x.room(0, 0), 5);
         due("zone of it", x.zone(0, 0, 5), 4);
         due("room", x.room(0, 0), 5);
@@ -802,7 +722,7 @@ public final class PromiseTest {
     }
 
     private static void trips() {
-        promise = "33";
+        about("promise 33");
         HopCredits x = net("ct3", 3);
         due("none yet", x.trip(0, 0), NONE);
         x.go(7);
@@ -814,12 +734,12 @@ public final class PromiseTest {
         due("what", x.trip(0, -1), NONE);
         due("circuit", x.trip(1, 0), NONE);
         due("circuit", x.trip(-1, 0), NONE);
-        promise = "34";
+        about("promise 34");
         due("came in 3", x.oldest(0), 7);
         due("circuit", x.oldest(1), NONE);
         due("none", net("cg0", 5).oldest(0), NONE);
         due("in the SOURCE", net("hb1;ct0", 3).oldest(0), 3);
-        promise = "33";
+        about("promise 33");
         x.takes(0, 1);
         x.source(0, 0, 0);
         x.go(20);
@@ -834,7 +754,7 @@ public final class PromiseTest {
     }
 
     private static void learnings() {
-        promise = "35";
+        about("promise 35");
         due("now", net("h").learns(0, 0), 0);
         due("on its way", net("hd3", 4).learns(0, 0), 3);
         due("further by the next", net("he2", 2).learns(0, 0), 2);
@@ -859,7 +779,7 @@ public final class PromiseTest {
     // ---- 36 to 43
 
     private static void stucks() {
-        promise = "36";
+        about("promise 36");
         due("no NET", new HopCredits().stuck(), false);
         due("no cells", net("cg0").stuck(), false);
         due("no cells yet", net("h").stuck(), false);
@@ -890,7 +810,7 @@ public final class PromiseTest {
     }
 
     private static void woulds() {
-        promise = "37";
+        about("promise 37");
         HopCredits x = net("hd2b12");
         due("zone 1", x.would(0, 0, 1, 20), 5);
         due("zone 2", x.would(0, 0, 2, 20), 10);
@@ -907,7 +827,7 @@ public final class PromiseTest {
         due("circuit", x.would(0, 1, 4, 1), NONE);
         due("no room", net("c;c").would(0, 0, 7, 1), NONE);
         due("ZONE as it was", x.lane(0, 0, 3), 12);
-        promise = "38";
+        about("promise 38");
         due("least by which most", x.bestZone(0, 0, 20), 4);
         due("two TICKS: none comes", x.bestZone(0, 0, 2), 1);
         due("as it is", net("hd2b4").bestZone(0, 0, 20), 4);
@@ -920,7 +840,7 @@ public final class PromiseTest {
     }
 
     private static void bearings() {
-        promise = "39";
+        about("promise 39");
         due("none", net("hb2").bears(20), 0);
         due("one", net("hb3").bears(20), 1);
         due("all", net("hb12").bears(20), 9);
@@ -935,7 +855,7 @@ public final class PromiseTest {
     }
 
     private static void waitings() {
-        promise = "40";
+        about("promise 40");
         HopCredits x = net("h;hb1;c;cg0");
         due("hop 1", x.waits(1, 0, 10), 8);
         due("hop 0", x.waits(0, 0, 10), 0);
@@ -944,7 +864,7 @@ public final class PromiseTest {
         due("circuit", x.waits(0, 2, 10), NONE);
         due("n 0", x.waits(0, 0, 0), NONE);
         due("n 201", x.waits(0, 0, 201), NONE);
-        promise = "41";
+        about("promise 41");
         due("worst", x.worst(0, 10), 1);
         due("none", x.worst(1, 10), NONE);
         due("of several the lowest", waitingBoth().worst(0, 9), 0);
@@ -952,7 +872,7 @@ public final class PromiseTest {
         due("circuit", x.worst(-1, 10), NONE);
         due("n 0", x.worst(0, 0), NONE);
         due("n 201", x.worst(0, 201), NONE);
-        promise = "42";
+        about("promise 42");
         due("busiest", x.busiest(1), 0);
         due("of several the lowest", net("h;h;cg0").busiest(200), 0);
         HopCredits y = net("h;h", 1);
@@ -968,7 +888,7 @@ public final class PromiseTest {
     }
 
     private static void counts() {
-        promise = "43";
+        about("promise 43");
         HopCredits x = new HopCredits();
         for (int what = -1; what <= 6; what++) {
             due("count(" + what + ")", x.count(what), what == 0 ? 0 : HIDDEN);
@@ -1028,9 +948,6 @@ public final class PromiseTest {
         bearings();
         waitings();
         counts();
-        System.out.println(wrong == 0 ? "all promises hold" : wrong + " answers are not as due");
-        if (wrong != 0) {
-            System.exit(1);
-        }
+        finish("all promises hold");
     }
 }
