@@ -155,6 +155,11 @@ public final class AheadEdgesTest extends Due {
         x.jam(0, 0);
         x.go(4);
         due("WAITED 8: a probe in the one to come", x.healed(), 9);
+        // its four cells are told of by none; a ZONE of 7, as ADAPT would lay it in TICK 19, would end its waiting
+        HopCredits adapts = net("na20p9;hb8;cs11;cg0");
+        adapts.jam(0, 4);
+        adapts.go(16);
+        due("WAITED 1, and no ADAPT: a probe in TICK 23", adapts.healed(), 10);
         HopCredits never = net("hd4b1");
         never.jam(0, 1);
         never.go(5);
@@ -206,8 +211,9 @@ public final class AheadEdgesTest extends Due {
         due("one less than now", x.loss(1, 20), -1);
         due("as now", x.loss(2, 20), 0);
         due("one more", x.loss(3, 20), 18 - 3);
-        HopCredits last = net("h;hb3");
-        due("the last HOP, too", last.loss(3, 21), 19 - 3);
+        due("the last HOP, too", net("h;hb3").loss(3, 21), 19 - 3);
+        due("the last CIRCUIT, too", net("hb6;cg0;c").loss(3, 20), 19 - 3);
+        due("all CIRCUITS", net("hb6;c;c").loss(9, 20), 19 - 6);
     }
 
     private static void bears() {
@@ -265,6 +271,22 @@ public final class AheadEdgesTest extends Due {
         }
         due("taken in 9, 18 .. 189, told a TICK behind", x.alone(1, 1, 30, 9, 199), 30 + 21);
         due("and in 198", x.alone(1, 1, 30, 9, 200), 30 + 22);
+    }
+
+    private static void aloneWhateverWasBefore() {
+        about("ALONE: a link of a DELAY, EVERY, with one CIRCUIT (nothing of the NET counts)");
+        for (String text : new String[] {BUSY, "na1p1;hb2;h;h;c;c;c", "np1;he4;ct0"}) {
+            HopCredits x = net(text, 40);
+            x.jam(0, 9);
+            for (int ahead = 0; ahead <= 200; ahead += 50) {
+                x.laneAhead(0, 0, 0, ahead);
+                due("no PROBES", x.alone(1, 4, 3, 1, 200), 3);
+                x.delivered(NONE, ahead);
+                due("no ADAPT", x.alone(4, 1, 2, 1, 200), 50);
+                x.heldUp(0, 0);
+                due("FULL", x.full(3, 1, 1, 60), 6);
+            }
+        }
     }
 
     private static void full() {
@@ -376,6 +398,8 @@ public final class AheadEdgesTest extends Due {
         HopCredits none = net("cg0;cg0");
         none.source(0, 1, 100);
         due("cells come, but there are none now", none.stuck(), false);
+        due("probes, answers are no cells", net("np2;hb1;ct0", 9).stuck(), true);
+        due("all that there can be", net("hb3;hb3;hb3;ct0;ct0;ct0", 60).stuck(), true);
         HopCredits first = net("h;hb1;ct0", 5);
         due("HOP 0 sends still", first.stuck(), false);
         go(first, 20);
@@ -407,6 +431,9 @@ public final class AheadEdgesTest extends Due {
         due("ZONE 1: one each 8 TICKS, from TICK 4 on", y.would(0, 0, 1, 200), 25);
         due("ZONE 2", y.would(0, 0, 2, 200), 50);
         due("ZONE 3", y.would(0, 0, 3, 200), 75);
+        HopCredits z = net("h;c;c");
+        due("of both, one in each TICK", z.would(0, 0, 1, 20), 19);
+        due("of both, one in each TICK", z.would(0, 1, 1, 20), 19);
         due("in 4 TICKS", y.would(0, 0, 3, 4), 0);
         due("in 5 TICKS", y.would(0, 0, 3, 5), 1);
     }
@@ -421,6 +448,7 @@ public final class AheadEdgesTest extends Due {
             due("as it is", net("hd" + delay + "b" + 2 * delay).bestZone(0, 0, 60), 2 * delay);
             due("POOL is less", net("hd" + delay + "b" + (2 * delay - 1)).bestZone(0, 0, 60), 2 * delay - 1);
         }
+        due("of all: the other takes the turns", net("hd2;c;c").bestZone(0, 0, 60), 1);
         HopCredits x = net("hd4b8;c;cg0");
         due("no room", x.bestZone(0, 0, 60), 4);
         x.zone(0, 1, 2);
@@ -524,6 +552,7 @@ public final class AheadEdgesTest extends Due {
         bears();
         fair();
         alone();
+        aloneWhateverWasBefore();
         full();
         law();
         trips();

@@ -231,6 +231,12 @@ public final class HandEdgesTest extends Due {
         due("of one CIRCUIT", x.way(0, 3, 4), 1);
         x.go(3);
         due("of their answers the latest alone is on it", x.hop(0, 6), 1);
+        x.probe(0, 0);
+        x.probe(0, 0);
+        x.jam(0, 3);
+        x.go(3);
+        due("both are answered, both answers are lost", x.count(3), 2);
+        due("n is two less", x.hop(0, 3), 1);
     }
 
     public static void main(String[] args) {

@@ -165,6 +165,29 @@ public final class TextEdgesTest extends Due {
         }
     }
 
+    private static void textOfWholeTape() {
+        about("FAULT of a TAPE of 160 bytes");
+        String blanks = " ".repeat(157);
+        faultOf("h  " + blanks, NONE);
+        faultOf("hd2" + blanks, NONE);
+        faultOf("h" + blanks + "d2", NONE);
+        faultOf("hb" + blanks + "2", NONE);
+        faultOf("h" + blanks + "de", 159);
+        faultOf("hd2" + blanks.substring(1) + "b", 160);
+        faultOf("h " + blanks + ";", 160);
+        faultOf("h  " + blanks.substring(2) + ";h", NONE);
+        faultOf("   " + blanks, 160);
+        faultOf("c " + blanks + "h", 159);
+        about("FAULT: of the bytes that the TAPE has alone");
+        HopCredits x = tape("hd1 2; x");
+        x.end(3);
+        due("a blank, a digit are behind it", x.fault(), NONE);
+        x.end(2);
+        due("a digit is behind it", x.fault(), 2);
+        x.end(1);
+        due("a letter is behind it", x.fault(), NONE);
+    }
+
     private static void ofSeveralTheFirst() {
         about("FAULT: the first byte");
         faultOf("hd5;he5", 2);
@@ -370,31 +393,38 @@ public final class TextEdgesTest extends Due {
 
     private static void allOfAnotherIsGone() {
         about("net: all that was of another one is gone but STATUS");
-        String[] texts = {"na3p2;hd4b3e2;hd2;hd3;c;cg2t0;cg3", "h", "np1;h;h;c;c", "nr2a9;hd2b20;hd4;h;ct3;c;c"};
+        String[] texts = {"na3p2;hd4b3e2;hd2;hd3;c;cg2t0;cg3", "h", "np1;h;h;c;c", "nr2a9;hd2b20;hd4;h;ct3;c;c", "hb1;ct9"};
         for (String before : texts) {
             for (String text : texts) {
-                HopCredits x = net(before);
-                x.jam(0, 7);
-                go(x, 25);
-                x.probe(0, 0);
-                x.zone(0, 0, 1);
-                x.go(61);
-                x.jam(9, 9);
-                x.jam(0, x.hop(0, 3));
-                int[] status = {x.status(0), x.status(1), x.status(2), x.status(3)};
-                feed(x, text);
-                x.net();
-                due(text + " behind " + before, told(x), told(net(text)));
-                statusOf(x, status[0], status[1], status[2], status[3]);
-                go(x, 31);
-                due(text + " behind " + before + ", on", x.count(2) * 1000 + x.count(1), deliveredAndCells(text));
+                for (int ticks : new int[] {0, 31}) {
+                    HopCredits x = used(before);
+                    int[] status = {x.status(0), x.status(1), x.status(2), x.status(3)};
+                    feed(x, text);
+                    x.net();
+                    go(x, ticks);
+                    due(text + " behind " + before + ", TICK " + ticks, told(x), told(net(text, ticks)));
+                    statusOf(x, status[0], status[1], status[2], status[3]);
+                }
             }
         }
     }
 
-    private static int deliveredAndCells(String text) {
-        HopCredits x = net(text, 31);
-        return x.count(2) * 1000 + x.count(1);
+    /** SPILT cells, long TRIPS, things on each HOP, and something of each of STATUS. */
+    private static HopCredits used(String text) {
+        HopCredits x = net(text);
+        x.jam(0, 7);
+        go(x, 205);
+        for (int h = 0; h < x.rule(0); h++) {
+            for (int c = 0; c < x.rule(1); c++) {
+                x.probe(h, c);
+            }
+        }
+        x.zone(0, 0, x.rule(2));
+        x.go(61);
+        x.jam(9, 9);
+        x.jam(0, x.hop(0, 3));
+        x.laneAhead(0, 0, 0, 9);
+        return x;
     }
 
     private static void allIsZeroAtFirst() {
@@ -434,6 +464,7 @@ public final class TextEdgesTest extends Due {
         firstBytesAlone();
         signsThatGoOn();
         endsTooEarly();
+        textOfWholeTape();
         ofSeveralTheFirst();
         boundsOfItems();
         thirdDigits();

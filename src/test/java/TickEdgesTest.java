@@ -461,6 +461,10 @@ public final class TickEdgesTest extends Due {
         for (int c = 0; c < 3; c++) {
             due("2 and 8 by 3", x.aim(0, c), 4);
         }
+        HopCredits one = net("nr2a3;hb14;cg0");
+        due("one alone: 2 and all 12", one.aim(0, 0), 14);
+        one.go(3);
+        due("ADAPT leaves it all", one.lane(0, 0, 3), 14);
         HopCredits y = net("nr1a8;hb10;c;cg2s1;cg0", 7);
         // sent: 0, 1, 0, 1, 0, 1, 0
         due("1 and 7 times 4 by 7", y.aim(0, 0), 5);
@@ -500,6 +504,20 @@ public final class TickEdgesTest extends Due {
         }
         x.go(3);
         due("then its ZONE is the greater one", x.room(0, 1), 7);
+    }
+
+    private static void asMuchAsThereIsRoom() {
+        about("ADAPT: the lesser of both, if it is more than the ZONE is");
+        HopCredits x = net("na10;hb9;ct0;c", 10);
+        due("4 of 10: 1 and 2", x.lane(0, 0, 3), 3);
+        due("6 of 10: 1 and 4", x.lane(0, 1, 3), 5);
+        x.zone(0, 1, 2);
+        x.go(9);
+        due("AIM", x.aim(0, 1), 8);
+        x.go(1);
+        due("9 less 4 that are OUT is the lesser", x.lane(0, 1, 3), 5);
+        x.go(10);
+        due("no more than the ZONE is", x.lane(0, 1, 3), 5);
     }
 
     private static void neverFlowsOver() {
@@ -552,6 +570,45 @@ public final class TickEdgesTest extends Due {
         due("ticks LEAST", x.way(0, LEAST, 0), NONE);
     }
 
+    private static void comesInNoTicks() {
+        about("way: so many TICKS (1 .. 5), none other, though all five are in use");
+        HopCredits x = net("hd4;c;c;c", 11);
+        x.probe(0, 1);
+        due("in 5", x.way(0, 5, 4), 2);
+        due("in 0", x.way(0, 0, 4), NONE);
+        due("in -5", x.way(0, -5, 4), NONE);
+        due("in 10", x.way(0, 10, 4), NONE);
+        due("a cell in 1", x.way(0, 1, 0), 1);
+        due("a cell in 6", x.way(0, 6, 0), NONE);
+        due("a cell in -4", x.way(0, -4, 0), NONE);
+        due("what 5", x.way(0, 1, 5), NONE);
+        due("what -1", x.way(0, 1, -1), NONE);
+    }
+
+    /** Whatever the TICK and the CIRCUIT. */
+    private static void howManyAreOnIt() {
+        about("hop: 4 cells on it, 6 updates and answers on it, 7 probes on it");
+        for (int tick = 0; tick <= 6; tick++) {
+            for (int c = 0; c < 3; c++) {
+                HopCredits x = net("hd4;cg0;cg0;cg0", tick);
+                x.source(c, 9, tick);
+                x.probe(0, c);
+                due("probes", x.hop(0, 7), 1);
+                due("cells", x.hop(0, 4), 0);
+                x.go(1);
+                due("cells", x.hop(0, 4), 1);
+                due("cells of the CIRCUIT", x.lane(0, c, 9), 1);
+                due("cells of another", x.lane(0, (c + 1) % 3, 9), 0);
+                due("updates", x.hop(0, 6), 0);
+                x.go(4);
+                due("an answer and an update are one", x.hop(0, 6), 1);
+                due("it tells", x.way(0, 4, 1 + c), 1);
+                due("cells", x.hop(0, 4), 0);
+                due("probes", x.hop(0, 7), 0);
+            }
+        }
+    }
+
     private static void sixtyTicks() {
         about("go: n TICKS (1 .. 60)");
         HopCredits x = net("na7p3;hd2b4e3;hd3;cg2t3;c;cs5");
@@ -587,8 +644,11 @@ public final class TickEdgesTest extends Due {
         adaptsInTime();
         aimsAreCut();
         zonesTakenBack();
+        asMuchAsThereIsRoom();
         neverFlowsOver();
         whatIsOnItsWay();
+        comesInNoTicks();
+        howManyAreOnIt();
         sixtyTicks();
         finish("the edges of a TICK hold");
     }
