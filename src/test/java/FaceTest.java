@@ -1,11 +1,11 @@
 import java.lang.reflect.Constructor;
+import java.lang.reflect.Executable;
 import java.lang.reflect.Field;
 import java.lang.reflect.Method;
 import java.lang.reflect.Modifier;
 import java.nio.file.Files;
 import java.nio.file.Path;
 import java.util.ArrayList;
-import java.util.Arrays;
 import java.util.HashSet;
 import java.util.List;
 import java.util.Set;
@@ -13,20 +13,18 @@ import java.util.TreeSet;
 
 /** The public face as the document writes it, and the rules of the language that can be seen without a compiler. */
 public final class FaceTest {
-    private static final String[] FACE = {
-        "int feed 5", "boolean end 1", "int fault 0", "int net 0", "int rule 1", "int hop 2", "int circuit 2",
-        "int lane 3", "int buffer 2", "int way 3", "int go 1", "int jam 2", "int source 3", "int takes 2",
-        "int zone 3", "int probe 2", "int status 1", "int laneAhead 4", "int bufferAhead 3", "int delivered 2",
-        "int heldUp 2", "int idle 2", "int most 4", "int healed 0", "int loss 2", "int fair 1", "int alone 5",
-        "int full 4", "int law 3", "int aim 2", "int room 2", "int trip 2", "int oldest 1", "int learns 2",
-        "boolean stuck 0", "int would 4", "int bestZone 3", "int bears 1", "int waits 3", "int worst 2",
-        "int busiest 1", "int count 1"};
+    private static final Path DOCUMENT = Path.of("../shared/DOC.md");
+    private static final Path PROGRAM = Path.of("src/main/java/HopCredits.java");
 
     private static final String[] BANNED = {"->", "::", "catch", "finally", "synchronized", "assert ", "Exact(",
         "static {", "System.out", "Random", "Thread", "hashCode", "toString", "getMessage", "double", "float"};
 
+    private static final int CONSTANTS = 2;
+    private static final int METHODS = 42;
     private static final int MOST_PARAMETERS = 7;
     private static final int MOST_LINES = 60;
+    private static final int MOST_CLASSES = 12;
+    private static final int MOST_FIELDS = 20;
 
     private static int wrong = 0;
 
@@ -37,51 +35,104 @@ public final class FaceTest {
         }
     }
 
-    private static void face() {
-        Class<?> type = HopCredits.class;
-        need(Modifier.isPublic(type.getModifiers()) && Modifier.isFinal(type.getModifiers()), "public and final");
-        Set<String> open = new TreeSet<>();
-        for (Method m : type.getDeclaredMethods()) {
-            if (Modifier.isPublic(m.getModifiers())) {
-                open.add(m.getReturnType().getSimpleName() + " " + m.getName() + " " + m.getParameterCount());
-            } else {
-                need(Modifier.isPrivate(m.getModifiers()) || m.isSynthetic(), m.getName() + " is not private");
+    // ---- the face
+
+    /** The lines of the document's first piece of Java: a constant, the constructor or a method each. */
+    private static List<String> faceOfDocument() throws Exception {
+        List<String> face = new ArrayList<>();
+        boolean inside = false;
+        for (String line : Files.readAllLines(DOCUMENT)) {
+            if (line.startsWith("```") && inside) {
+                break;
             }
-            need(m.getParameterCount() <= MOST_PARAMETERS, m.getName() + " takes too much");
+            inside = inside || line.equals("```java");
+            if (inside && line.startsWith("    public ")) {
+                face.add(line);
+            }
         }
-        need(open.equals(new TreeSet<>(Arrays.asList(FACE))), "the face is " + open);
+        return face;
+    }
+
+    private static Set<String> faceOfClass() throws Exception {
+        Class<?> type = HopCredits.class;
+        Set<String> face = new TreeSet<>();
         for (Field f : type.getDeclaredFields()) {
-            boolean constant = f.getName().equals("NONE") || f.getName().equals("HIDDEN");
-            need(constant == Modifier.isPublic(f.getModifiers()), f.getName());
-            need(constant || Modifier.isPrivate(f.getModifiers()), f.getName() + " is not private");
-            need(!Modifier.isStatic(f.getModifiers()) || Modifier.isFinal(f.getModifiers()), f.getName());
+            if (!Modifier.isPrivate(f.getModifiers())) {
+                face.add(Modifier.toString(f.getModifiers()) + " " + f.getType().getName() + " " + f.getName() + " = "
+                        + f.getInt(null) + ";");
+            }
         }
         for (Constructor<?> c : type.getDeclaredConstructors()) {
-            need(Modifier.isPublic(c.getModifiers()) && c.getParameterCount() == 0, "the constructor");
+            face.add(wordsOf(c, "HopCredits"));
         }
+        for (Method m : type.getDeclaredMethods()) {
+            if (!Modifier.isPrivate(m.getModifiers()) && !m.isSynthetic()) {
+                face.add(wordsOf(m, m.getReturnType().getName() + " " + m.getName()));
+            }
+        }
+        return face;
     }
+
+    private static String wordsOf(Executable e, String name) {
+        List<String> types = new ArrayList<>();
+        for (Class<?> type : e.getParameterTypes()) {
+            types.add(type.getName());
+        }
+        String thrown = "";
+        for (Class<?> type : e.getExceptionTypes()) {
+            thrown += " throws " + type.getSimpleName();
+        }
+        return Modifier.toString(e.getModifiers()) + " " + name + "(" + String.join(", ", types) + ")" + thrown + ";";
+    }
+
+    private static void face() throws Exception {
+        List<String> lines = faceOfDocument();
+        need(lines.size() == CONSTANTS + 1 + METHODS, "the document has " + lines.size() + " lines of the face");
+        List<String> program = Files.readAllLines(PROGRAM);
+        Set<String> due = new TreeSet<>();
+        for (String line : lines) {
+            need(program.contains(line) || program.contains(line.replace(";", " {")), "no such line:" + line);
+            due.add(line.strip().replaceAll("int \\w+(?=[,)])", "int"));
+        }
+        need(Modifier.toString(HopCredits.class.getModifiers()).equals("public final"), "public and final");
+        need(faceOfClass().equals(due), "the face is " + faceOfClass() + ", due is " + due);
+    }
+
+    // ---- the rules of the language
 
     private static void inside() {
         Set<String> names = new HashSet<>();
-        for (String line : FACE) {
-            names.add(line.split(" ")[1]);
-        }
-        List<Class<?>> all = new ArrayList<>(Arrays.asList(HopCredits.class.getDeclaredClasses()));
-        for (Class<?> type : all) {
-            need(Modifier.isStatic(type.getModifiers()) && !Modifier.isPublic(type.getModifiers()), type.getName());
-            for (Method m : type.getDeclaredMethods()) {
-                need(!names.contains(m.getName()), m.getName() + " bears the name of a public method");
-                need(m.getParameterCount() <= MOST_PARAMETERS, m.getName() + " takes too much");
+        for (Method m : HopCredits.class.getDeclaredMethods()) {
+            if (Modifier.isPublic(m.getModifiers())) {
+                names.add(m.getName());
             }
         }
-        for (Method m : HopCredits.class.getDeclaredMethods()) {
-            need(Modifier.isPublic(m.getModifiers()) || !names.contains(m.getName()), m.getName());
+        Class<?>[] within = HopCredits.class.getDeclaredClasses();
+        need(within.length < MOST_CLASSES, "too many classes");
+        look(HopCredits.class, names);
+        for (Class<?> type : within) {
+            need(Modifier.isStatic(type.getModifiers()) && !Modifier.isPublic(type.getModifiers()), type.getName());
+            look(type, names);
         }
-        need(all.size() < 12, "too many classes");
+    }
+
+    private static void look(Class<?> type, Set<String> names) {
+        int kept = 0;
+        for (Method m : type.getDeclaredMethods()) {
+            boolean open = type == HopCredits.class && Modifier.isPublic(m.getModifiers());
+            need(open || !names.contains(m.getName()), m.getName() + " bears the name of a public method");
+            need(m.getParameterCount() <= MOST_PARAMETERS, m.getName() + " takes too much");
+        }
+        for (Field f : type.getDeclaredFields()) {
+            boolean fixed = Modifier.isStatic(f.getModifiers());
+            need(!fixed || Modifier.isFinal(f.getModifiers()), f.getName() + " is static, not final");
+            kept += fixed ? 0 : 1;
+        }
+        need(kept <= MOST_FIELDS, type.getName() + " has too many fields");
     }
 
     private static void text() throws Exception {
-        List<String> lines = Files.readAllLines(Path.of("src/main/java/HopCredits.java"));
+        List<String> lines = Files.readAllLines(PROGRAM);
         int since = 0;
         for (int i = 0; i < lines.size(); i++) {
             String line = lines.get(i);
